@@ -31,7 +31,7 @@ public final class FaceTest {
     };
 
     public static void main(String[] args) {
-        Check check = new Check();
+        Check check = new Check("the face");
         TreeSet<String> seen = new TreeSet<>();
         for (Constructor<?> each : MeteredSheets.class.getDeclaredConstructors()) {
             addUnlessPrivate(seen, each.getModifiers(), each.toGenericString());

@@ -7,7 +7,7 @@ import java.util.Map;
 import java.util.Set;
 
 /** The document once more, written for its words and not for speed, to compare the class with. */
-final class Model {
+final class Model implements Workbook {
     /** A formula: its kind, the cells that it names, and its number. */
     record Formula(char kind, List<Integer> named, long number) {
         Set<Integer> reads() {
@@ -25,13 +25,16 @@ final class Model {
         }
     }
 
-    final Map<Integer, Formula> formulas = new HashMap<>();
-    final Map<Integer, Long> values = new HashMap<>();
-    final Set<Integer> marked = new HashSet<>();
-    final long[] prices = {1, 1, 1, 1};
-    final long[] budgets = {100, 100, 100, 100};
-    /** Each reading that was paid: its number as it is told, and its cost. */
-    final List<long[]> readings = new ArrayList<>();
+    /** A reading that was paid, kept or not. */
+    record Reading(int user, int reader, int read, int cost) {
+    }
+
+    private final Map<Integer, Formula> formulas = new HashMap<>();
+    private final Map<Integer, Long> values = new HashMap<>();
+    private final Set<Integer> marked = new HashSet<>();
+    private final int[] prices = {1, 1, 1, 1};
+    private final int[] budgets = {100, 100, 100, 100};
+    private final List<Reading> paid = new ArrayList<>();
 
     Model() {
         for (int cell = 0; cell < 24; cell++) {
@@ -40,7 +43,117 @@ final class Model {
         }
     }
 
-    long set(int user, int cell, Formula formula) {
+    @Override
+    public int setNumber(int user, int cell, int value) {
+        return set(user, cell, new Formula('n', List.of(), value));
+    }
+
+    @Override
+    public int setSum(int user, int cell, int one, int other, int more) {
+        return set(user, cell, new Formula('s', List.of(one, other), more));
+    }
+
+    @Override
+    public int setGreater(int user, int cell, int one, int other) {
+        return set(user, cell, new Formula('g', List.of(one, other), 0));
+    }
+
+    @Override
+    public int setTimes(int user, int cell, int one, int factor) {
+        return set(user, cell, new Formula('t', List.of(one), factor));
+    }
+
+    @Override
+    public int refresh(int user) {
+        range(user, 0, 4);
+        return goThrough(user, new HashSet<>(), true);
+    }
+
+    @Override
+    public int setPrice(int sheet, int price) {
+        range(sheet, 0, 3);
+        range(price, 0, 100);
+        int before = prices[sheet];
+        prices[sheet] = price;
+        return before;
+    }
+
+    @Override
+    public int grant(int sheet, int money) {
+        range(sheet, 0, 3);
+        range(money, 1, 10000);
+        budgets[sheet] += money;
+        return budgets[sheet];
+    }
+
+    @Override
+    public int budget(int sheet) {
+        range(sheet, 0, 3);
+        return budgets[sheet];
+    }
+
+    @Override
+    public int earned(int sheet) {
+        range(sheet, 0, 3);
+        return paid.stream().filter(each -> each.read() / 6 == sheet).mapToInt(Reading::cost).sum();
+    }
+
+    @Override
+    public int caused(int user) {
+        range(user, 0, 4);
+        return paid.stream().filter(each -> each.user() == user).mapToInt(Reading::cost).sum();
+    }
+
+    @Override
+    public int value(int cell) {
+        range(cell, 0, 23);
+        return (int) (long) values.get(cell);
+    }
+
+    @Override
+    public boolean isMarked(int cell) {
+        range(cell, 0, 23);
+        return marked.contains(cell);
+    }
+
+    @Override
+    public int valueAnew(int cell) {
+        range(cell, 0, 23);
+        Map<Integer, Long> anew = new HashMap<>();
+        for (int each : order()) {
+            anew.put(each, formulas.get(each).comesTo(anew));
+        }
+        return (int) (long) anew.get(cell);
+    }
+
+    @Override
+    public int readings() {
+        return Math.min(500, paid.size());
+    }
+
+    @Override
+    public int reading(int reading) {
+        if (reading < 0 || reading >= readings()) {
+            throw new IndexOutOfBoundsException();
+        }
+        Reading kept = paid.get(reading);
+        return 10000 * kept.user() + 100 * kept.reader() + kept.read();
+    }
+
+    @Override
+    public int timesRead(int reader, int read) {
+        range(reader, 0, 23);
+        range(read, 0, 23);
+        return (int) paid.stream().filter(each -> each.reader() == reader && each.read() == read).count();
+    }
+
+    @Override
+    public int readOf(int sheet) {
+        range(sheet, 0, 3);
+        return (int) paid.stream().filter(each -> each.read() / 6 == sheet).count();
+    }
+
+    private int set(int user, int cell, Formula formula) {
         range(user, 0, 4);
         range(cell, 0, 23);
         for (int named : formula.named()) {
@@ -61,73 +174,6 @@ final class Model {
         Set<Integer> changed = new HashSet<>();
         compute(user, cell, changed);
         return 1 + goThrough(user, changed, false);
-    }
-
-    long refresh(int user) {
-        range(user, 0, 4);
-        return goThrough(user, new HashSet<>(), true);
-    }
-
-    long setPrice(int sheet, int price) {
-        range(sheet, 0, 3);
-        range(price, 0, 100);
-        long before = prices[sheet];
-        prices[sheet] = price;
-        return before;
-    }
-
-    long grant(int sheet, int money) {
-        range(sheet, 0, 3);
-        range(money, 1, 10000);
-        budgets[sheet] += money;
-        return budgets[sheet];
-    }
-
-    String state() {
-        StringBuilder text = new StringBuilder();
-        for (int sheet = 0; sheet < 4; sheet++) {
-            long earned = 0;
-            long count = 0;
-            for (long[] reading : readings) {
-                if (reading[0] % 100 / 6 == sheet) {
-                    earned += reading[1];
-                    count++;
-                }
-            }
-            text.append("sheet ").append(sheet).append(": budget ").append(budgets[sheet]);
-            text.append(", earned ").append(earned).append(", readOf ").append(count);
-            text.append(", price ").append(prices[sheet]).append('\n');
-        }
-        for (int user = 0; user < 5; user++) {
-            long caused = 0;
-            for (long[] reading : readings) {
-                caused += reading[0] / 10000 == user ? reading[1] : 0;
-            }
-            text.append("user ").append(user).append(" caused ").append(caused).append('\n');
-        }
-        Map<Integer, Long> anew = new HashMap<>();
-        for (int cell : order()) {
-            anew.put(cell, formulas.get(cell).comesTo(anew));
-        }
-        int[] counts = new int[2400];
-        for (long[] reading : readings) {
-            counts[(int) (reading[0] % 10000)]++;
-        }
-        for (int cell = 0; cell < 24; cell++) {
-            text.append("cell ").append(cell).append(": ").append(values.get(cell));
-            text.append(marked.contains(cell) ? " marked" : "").append(", anew ").append(anew.get(cell));
-            for (int read = 0; read < 24; read++) {
-                if (counts[100 * cell + read] != 0) {
-                    text.append(", read ").append(read).append(" times ").append(counts[100 * cell + read]);
-                }
-            }
-            text.append('\n');
-        }
-        int kept = Math.min(500, readings.size());
-        for (int reading = 0; reading < kept; reading++) {
-            text.append(readings.get(reading)[0]).append(' ');
-        }
-        return text.append("of ").append(kept).append(" readings\n").toString();
     }
 
     private static void range(long number, long least, long most) {
@@ -160,8 +206,8 @@ final class Model {
         return order;
     }
 
-    private long goThrough(int user, Set<Integer> changed, boolean alsoMarked) {
-        long count = 0;
+    private int goThrough(int user, Set<Integer> changed, boolean alsoMarked) {
+        int count = 0;
         for (int cell : order()) {
             boolean due = alsoMarked && marked.contains(cell);
             for (int read : formulas.get(cell).reads()) {
@@ -176,11 +222,11 @@ final class Model {
     }
 
     private void compute(int user, int cell, Set<Integer> changed) {
-        List<long[]> due = new ArrayList<>();
-        long cost = 0;
+        List<Reading> due = new ArrayList<>();
+        int cost = 0;
         for (int read : formulas.get(cell).reads()) {
             if (read / 6 != cell / 6) {
-                due.add(new long[] {10000L * user + 100 * cell + read, prices[read / 6]});
+                due.add(new Reading(user, cell, read, prices[read / 6]));
                 cost += prices[read / 6];
             }
         }
@@ -189,7 +235,7 @@ final class Model {
             return;
         }
         budgets[cell / 6] -= cost;
-        readings.addAll(due);
+        paid.addAll(due);
         marked.remove(cell);
         long result = formulas.get(cell).comesTo(values);
         if (result != values.put(cell, result)) {

@@ -1,57 +1,80 @@
 public final class Promise05SetTimesTest {
+    private static final Check CHECK = new Check("promise 5");
+
     public static void main(String[] args) {
-        Check check = new Check();
-        MeteredSheets x = new MeteredSheets();
+        new FormulaChecks(CHECK, "setTimes", (x, user, cell, one, other) -> x.setTimes(user, cell, one, 3)).all();
+        takesAllWithinTheRanges();
+        refusesAllOutsideTheRanges();
+        outOfRangeComesBeforeALoop();
+        readsTheCellAlsoTimesZero();
+        theBoundsOfAValue();
+        CHECK.end();
+    }
+
+    private static void takesAllWithinTheRanges() {
+        Run x = new Run();
         x.setNumber(0, 0, 30);
-        check.due("setTimes", x.setTimes(4, 23, 0, 100), 1);
-        check.due("value of the most", x.value(23), 3000);
-        check.due("setTimes", x.setTimes(0, 1, 0, -100), 1);
-        check.due("value of the least", x.value(1), -3000);
-        check.due("setTimes of 0", x.setTimes(0, 6, 0, 0), 1);
-        check.due("value of 0 times", x.value(6), 0);
-        check.due("0 times a cell reads it too", x.timesRead(6, 0), 1);
-        check.due("setNumber under them", x.setNumber(0, 0, 31), 4);
-        for (int user : new int[] {-1, 5, Integer.MIN_VALUE, Integer.MAX_VALUE}) {
-            check.illegal("setTimes by user " + user, x, () -> x.setTimes(user, 5, 1, 2));
+        x.setNumber(0, 23, 7);
+        for (int factor : new int[] {-100, -99, -1, 0, 1, 99, 100}) {
+            CHECK.due("setTimes by " + factor, x.setTimes(0, 1, 0, factor), 1);
+            CHECK.due("value then", x.value(1), 30 * factor);
         }
-        for (int cell : new int[] {-1, 24, Integer.MIN_VALUE, Integer.MAX_VALUE}) {
-            check.illegal("setTimes of cell " + cell, x, () -> x.setTimes(0, cell, 1, 2));
-            check.illegal("setTimes of one " + cell, x, () -> x.setTimes(0, 5, cell, 2));
-        }
-        for (int factor : new int[] {-101, 101, Integer.MIN_VALUE, Integer.MAX_VALUE}) {
-            check.illegal("setTimes by " + factor, x, () -> x.setTimes(0, 5, 1, factor));
-            check.illegal("setTimes of itself by " + factor, x, () -> x.setTimes(0, 5, 5, factor));
-        }
-        check.loop("setTimes of itself", x, () -> x.setTimes(0, 5, 5, 2));
-        check.loop("setTimes over another", x, () -> x.setTimes(0, 0, 23, 2));
-        check.loop("0 times itself", x, () -> x.setTimes(0, 0, 6, 0));
-        longLoop(check);
-        bounds(check);
-        check.end();
+        CHECK.due("setTimes of the last cell", x.setTimes(0, 1, 23, 2), 1);
+        CHECK.due("value then", x.value(1), 14);
     }
 
-    private static void longLoop(Check check) {
-        MeteredSheets x = new MeteredSheets();
-        for (int cell = 23; cell > 0; cell--) {
-            x.setTimes(0, cell - 1, cell, 1);
+    private static void refusesAllOutsideTheRanges() {
+        Run x = new Run();
+        x.setNumber(0, 1, 3);
+        x.setTimes(0, 6, 1, 2);
+        for (int factor : Check.outside(-100, 100)) {
+            CHECK.illegal("setTimes by " + factor, x, () -> x.setTimes(0, 6, 1, factor));
         }
-        check.loop("a loop over all cells", x, () -> x.setTimes(0, 23, 0, 1));
-        check.due("a number over all cells", x.setNumber(0, 23, 5), 24);
-        check.due("the last of the chain", x.value(0), 5);
+        CHECK.illegal("setTimes of nothing within", x, () -> x.setTimes(5, -1, 24, 101));
     }
 
-    private static void bounds(Check check) {
-        MeteredSheets x = new MeteredSheets();
-        x.setNumber(0, 0, 10000);
-        x.setTimes(0, 1, 0, 100);
-        check.due("at the upper bound", x.value(1), 1000000);
-        x.setTimes(0, 2, 0, -100);
-        check.due("at the lower bound", x.value(2), -1000000);
-        x.setTimes(0, 3, 1, 100);
-        check.due("beyond the upper bound", x.value(3), 1000000);
-        x.setTimes(0, 3, 2, 100);
-        check.due("beyond the lower bound", x.value(3), -1000000);
-        x.setTimes(0, 3, 2, -100);
-        check.due("beyond the upper bound by two signs", x.value(3), 1000000);
+    private static void outOfRangeComesBeforeALoop() {
+        Run x = new Run();
+        x.setTimes(0, 6, 1, 2);
+        for (int factor : Check.outside(-100, 100)) {
+            CHECK.illegal("setTimes of itself by " + factor, x, () -> x.setTimes(0, 6, 6, factor));
+            CHECK.illegal("setTimes over another by " + factor, x, () -> x.setTimes(0, 1, 6, factor));
+        }
+    }
+
+    private static void readsTheCellAlsoTimesZero() {
+        Run x = new Run();
+        CHECK.due("0 times a cell", x.setTimes(0, 6, 0, 0), 1);
+        CHECK.due("the cell is read", x.timesRead(6, 0), 1);
+        CHECK.due("a change of what 0 times reads", x.setNumber(0, 0, 5), 2);
+        CHECK.due("the cell is read again", x.timesRead(6, 0), 2);
+        CHECK.due("value then", x.value(6), 0);
+        CHECK.loop("0 times itself over another", x, () -> x.setTimes(0, 0, 6, 0));
+        CHECK.loop("0 times itself", x, () -> x.setTimes(0, 6, 6, 0));
+    }
+
+    private static void theBoundsOfAValue() {
+        Run x = new Run();
+        times(x, 10000, 100, 1000000);
+        times(x, 10000, -100, -1000000);
+        times(x, -10000, -100, 1000000);
+        times(x, 333333, 3, 999999);
+        times(x, 333333, -3, -999999);
+        // 1000001 has no factor up to 100, so 1000002 is the first product beyond the bound.
+        times(x, 500001, 2, 1000000);
+        times(x, 500001, -2, -1000000);
+        times(x, 1000000, 100, 1000000);
+        times(x, 1000000, -100, -1000000);
+        times(x, -1000000, 100, -1000000);
+        times(x, -1000000, -100, 1000000);
+        times(x, 1000000, 0, 0);
+        times(x, 1000000, -1, -1000000);
+    }
+
+    private static void times(Run x, int value, int factor, int want) {
+        x.setNumber(0, 0, value);
+        x.setTimes(0, 1, 0, factor);
+        CHECK.due(value + " times " + factor, x.value(1), want);
+        CHECK.due(value + " times " + factor + " anew", x.valueAnew(1), want);
     }
 }
