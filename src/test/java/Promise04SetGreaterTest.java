@@ -4,8 +4,8 @@ public final class Promise04SetGreaterTest {
     public static void main(String[] args) {
         new FormulaChecks(CHECK, "setGreater", (x, user, cell, one, other) -> x.setGreater(user, cell, one, other))
             .all();
-        new FormulaChecks(CHECK, "setGreater turned", (x, user, cell, one, other) -> x.setGreater(user, cell, other, one))
-            .all();
+        new FormulaChecks(CHECK, "setGreater turned",
+            (x, user, cell, one, other) -> x.setGreater(user, cell, other, one)).all();
         isTheGreaterOne();
         theBoundsOfAValue();
         oneCellTwiceIsReadOnce();

@@ -36,7 +36,8 @@ public final class Promise09BudgetTest {
         Run x = Sheets.withOneReading(reader, read);
         for (int sheet = 0; sheet <= 3; sheet++) {
             int paid = sheet == Sheets.of(reader) ? Sheets.costOf(reader, read) : 0;
-            CHECK.due("budget of sheet " + sheet + " after " + reader + " has read " + read, x.budget(sheet), 100 - paid);
+            String name = "budget of sheet " + sheet + " after " + reader + " has read " + read;
+            CHECK.due(name, x.budget(sheet), 100 - paid);
         }
     }
 
